@@ -11,6 +11,8 @@ public final class QueryStore {
     private static final int PAGE_ROWS = 4;
     private static final int RESULT_MOST = 40;
     private static final int TEXT_MOST = 48;
+    private static final int FIRST_CHARACTER = 33;
+    private static final int LAST_CHARACTER = 126;
     private static final int DEPTH_MOST = 5;
     private static final int DIGITS_MOST = 4;
     private static final String DIGITS = "0123456789";
@@ -21,7 +23,7 @@ public final class QueryStore {
     private static final int SECOND_ROW = COLUMNS;
     private static final int PARAMETER = 2 * COLUMNS;
     private static final int VALUES = PARAMETER + 1;
-    // A sum needs two registers more than the one it goes to, and so does each UNIT inside it.
+    // A sum takes up to two registers above the one it goes to, at each depth anew.
     private static final int REGISTERS = VALUES + COLUMNS + 2 * DEPTH_MOST;
 
     // The machine's operations; the reader counts on the order + -, * / % and < = >.
@@ -594,26 +596,34 @@ public final class QueryStore {
         }
 
         int add(long eight) {
-            int more = 0;
-            for (int shift = 56; shift >= 0; shift -= 8) {
-                int c = (int) (eight >>> shift) & 255;
-                if (c != 0) {
-                    if (c < 33 || c > 126) {
-                        throw new IllegalArgumentException();
-                    }
-                    more++;
-                }
-            }
-            if (length + more > TEXT_MOST) {
+            if (length + charactersIn(eight) > TEXT_MOST) {
                 throw new IllegalStateException();
             }
             for (int shift = 56; shift >= 0; shift -= 8) {
-                int c = (int) (eight >>> shift) & 255;
+                int c = byteAt(eight, shift);
                 if (c != 0) {
                     text[length++] = (char) c;
                 }
             }
             return length;
+        }
+
+        private static int charactersIn(long eight) {
+            int found = 0;
+            for (int shift = 56; shift >= 0; shift -= 8) {
+                int c = byteAt(eight, shift);
+                if (c != 0) {
+                    if (c < FIRST_CHARACTER || c > LAST_CHARACTER) {
+                        throw new IllegalArgumentException();
+                    }
+                    found++;
+                }
+            }
+            return found;
+        }
+
+        private static int byteAt(long eight, int shift) {
+            return (int) (eight >>> shift) & 255;
         }
 
         void read(Code target) {

@@ -123,5 +123,26 @@ public final class ChangesTest {
         checks.same("noted", store.count(9), 54);
         checks.same("back()", store.back(), 54);
         checks.sameText("rows", Checks.rows(store, 0), rows);
+        emptied(checks);
+    }
+
+    private static void emptied(Checks checks) {
+        QueryStore store = new QueryStore();
+        Checks.keep(store, 0, "I0(?,0,0)");
+        store.begin();
+        for (int i = 0; i < 20; i++) {
+            store.run(0, i);
+        }
+        checks.same("back()", store.back(), 20);
+        checks.sameText("rows", Checks.rows(store, 0), "");
+        for (int i = 6; i > 0; i--) {
+            store.run(0, i);
+        }
+        checks.sameText("rows", Checks.rows(store, 0), "1,0,0 2,0,0 3,0,0 4,0,0 5,0,0 6,0,0");
+        store.begin();
+        Checks.ask(store, "D0");
+        checks.sameText("rows", Checks.rows(store, 0), "");
+        checks.same("back()", store.back(), 6);
+        checks.sameText("rows", Checks.rows(store, 0), "1,0,0 2,0,0 3,0,0 4,0,0 5,0,0 6,0,0");
     }
 }

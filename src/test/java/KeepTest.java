@@ -30,13 +30,15 @@ public final class KeepTest {
         "S0((((1))))", "0", "S0-(-(1))", "0", "S0((((1+1)*2)-3)%4)/5", "0", "S0((((?))))+((((?))))", "2",
         "P00a,d", "0", "P12f^f", "0", "P20a,e,?[b=e]^d", "1", "A0+a", "0", "A0#1", "0", "A0>?", "1", "A0<-c", "0",
         "A0+a[a=1]", "0", "B01+f", "0", "B22<a-d[?>e]", "1", "B00>1", "0", "B00#1", "0",
-        "D0[?=?&?=?&?=?|?=?&?=?&?=?|?=?&?=?|?=?|?=?|?=1]", "21", "A0+--?+--?+--?+--?+--?+--?+--?+--?+--?+--?+--?+?", "12",
+        "D0[?=?&?=?&?=?|?=?&?=?&?=?|?=?&?=?|?=?|?=?|?=1]", "21",
+        "A0+--?+--?+--?+--?+--?+--?+--?+--?+--?+--?+--?+?", "12",
     };
 
     public static void main(String[] args) {
         Checks checks = new Checks();
         unreadable(checks);
         readable(checks);
+        oneAfterAnother(checks);
         whatIsKept(checks);
         numbers(checks);
         checks.finish();
@@ -60,6 +62,15 @@ public final class KeepTest {
             checks.same("place behind " + READABLE[i], store.count(0), -1);
             checks.same("length behind " + READABLE[i], store.count(1), 0);
             checks.same("kept behind " + READABLE[i], store.count(2), 1);
+        }
+    }
+
+    // What one statement has, the next one that takes its place has not.
+    private static void oneAfterAnother(Checks checks) {
+        QueryStore store = new QueryStore();
+        for (int i = 0; i < READABLE.length; i += 2) {
+            int due = Integer.parseInt(READABLE[i + 1]);
+            checks.same("keep " + READABLE[i], Checks.keep(store, i % 4, READABLE[i]), due);
         }
     }
 

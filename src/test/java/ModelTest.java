@@ -6,7 +6,7 @@ public final class ModelTest {
     private static final int CALLS = 512;
     private static final String[] USUAL = {
         "I0(?,?%3,?*2)", "I1(?%23,?,-?)", "I2(-?,?/7,1)", "I0(?%41,0,0)", "I1(?%37,1,?)", "I0(?%29,?%5,?%7)",
-        "I2(?%31,?%4,?%3)", "D0[a%5=?%5]", "D1[a>?]", "D2[b=c]", "U0b=?[c>b]", "U1c=b/(a-?)", "S0a,b,c^b",
+        "I2(?%31,?%4,?%3)", "D0[a%5=?%5]", "D1[a>?+9]", "D2[b=c&a>?]", "U0b=?[c>b]", "U1c=b/(a-?)", "S0a,b,c^b",
         "S1a,b[a<?]^c", "P01a,d[b=e]^c", "P12a*d,e", "P20f,b^e", "B01+a*e", "B00>a-d", "A1<b[a>?]", "A2#b/c",
         "P01a[a<d]^f", "P00a/(d-?)",
     };
@@ -33,8 +33,25 @@ public final class ModelTest {
         store = new QueryStore();
         model = new Model(grammar);
         waiting = "";
-        for (calls = 0; calls < CALLS; calls++) {
+        calls = 0;
+        if (n % 4 > 0) {
+            fillTables(n);
+        }
+        for (; calls < CALLS; calls++) {
             oneCall(n);
+        }
+    }
+
+    private void fillTables(int n) {
+        for (int table = 0; table < 3; table++) {
+            int rows = dice.below(30);
+            for (int i = 0; i < rows; i++) {
+                waiting = "I" + table + "(?%23,?%5-2,?%4)\n";
+                toKeep = false;
+                for (; !waiting.isEmpty(); calls++) {
+                    typeOn(n);
+                }
+            }
         }
     }
 
@@ -51,14 +68,17 @@ public final class ModelTest {
         } else if (kind < 55) {
             int k = dice.below(20) == 0 ? dice.below(9) - 3 : dice.below(4);
             int parameter = parameter();
-            compare(n, "run(" + k + ", " + parameter + ")", () -> store.run(k, parameter), () -> model.run(k, parameter));
+            compare(n, "run(" + k + ", " + parameter + ")", () -> store.run(k, parameter),
+                    () -> model.run(k, parameter));
+            lookAtResult(n);
         } else if (kind < 67) {
             int i = dice.below(9) == 0 ? dice.below(50) - 5 : dice.below(Math.max(1, model.count(6)));
             int j = dice.below(12) == 0 ? dice.below(6) - 2 : dice.below(3);
             compare(n, "value(" + i + ", " + j + ")", () -> store.value(i, j), () -> model.value(i, j));
         } else if (kind < 82) {
             int table = dice.below(15) == 0 ? dice.below(7) - 2 : dice.below(3);
-            int i = dice.below(24) - 2;
+            int rows = Math.max(1, model.count(3 + table));
+            int i = dice.below(8) == 0 ? dice.below(24) - 2 : dice.below(rows);
             int j = dice.below(15) == 0 ? dice.below(7) - 2 : dice.below(3);
             compare(n, "row(" + table + ", " + i + ", " + j + ")", () -> store.row(table, i, j),
                     () -> model.row(table, i, j));
@@ -86,6 +106,16 @@ public final class ModelTest {
         }
     }
 
+    private void lookAtResult(int n) {
+        int rows = model.count(6);
+        int width = model.count(7);
+        for (int looks = Math.min(5, rows * width); looks > 0 && calls < CALLS - 1; looks--, calls++) {
+            int i = dice.below(rows);
+            int j = dice.below(width);
+            compare(n, "value(" + i + ", " + j + ")", () -> store.value(i, j), () -> model.value(i, j));
+        }
+    }
+
     // Types the next characters of the waiting text, with zeros among them, then keeps or asks it.
     private void typeOn(int n) {
         if (!waiting.isEmpty() && waiting.charAt(0) != '\n') {
@@ -108,6 +138,7 @@ public final class ModelTest {
         } else {
             int parameter = parameter();
             compare(n, "ask(" + parameter + ")", () -> store.ask(parameter), () -> model.ask(parameter));
+            lookAtResult(n);
         }
     }
 
@@ -117,7 +148,11 @@ public final class ModelTest {
         if (kind < 5) {
             return USUAL[dice.below(USUAL.length)] + "\n";
         }
-        StringBuilder text = new StringBuilder(grammar.statement(dice));
+        String statement = grammar.statement(dice);
+        while (statement.charAt(0) == 'D' && dice.below(10) > 0) {
+            statement = grammar.statement(dice);
+        }
+        StringBuilder text = new StringBuilder(statement);
         if (kind > 7) {
             spoil(text);
         }

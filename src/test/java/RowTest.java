@@ -19,6 +19,7 @@ public final class RowTest {
             fails(checks, store, Checks.NOT_THERE, notThere[n], notThere[n + 1], notThere[n + 2]);
         }
         rowsComeAndGo(checks);
+        rowsMoveOn(checks);
         checks.finish();
     }
 
@@ -53,6 +54,25 @@ public final class RowTest {
             for (int key = 0; key < 20; key++) {
                 checks.same("a of row " + key, store.row(0, key, 0), key);
             }
+        }
+    }
+
+    // Many more rows come than the table holds, as others go: up and down the keys.
+    private static void rowsMoveOn(Checks checks) {
+        for (int way = -1; way <= 1; way += 2) {
+            QueryStore store = new QueryStore();
+            Checks.keep(store, 0, "I2(?,?*2,?*3)");
+            Checks.keep(store, 1, way > 0 ? "D2[a<?-5]" : "D2[a>?+5]");
+            for (int i = 0; i < 120; i++) {
+                store.run(0, way * i);
+                checks.same("rows taken away", store.run(1, way * i), i > 5 ? 1 : 0);
+            }
+            for (int i = 0; i < 6; i++) {
+                int key = way > 0 ? 114 + i : i - 119;
+                checks.same("a of row " + i, store.row(2, i, 0), key);
+                checks.same("c of row " + i, store.row(2, i, 2), 3 * key);
+            }
+            fails(checks, store, Checks.NOT_THERE, 2, 6, 0);
         }
     }
 }
