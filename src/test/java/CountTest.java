@@ -94,6 +94,8 @@ public final class CountTest {
         checks.same("rows behind A", store.count(6), 1);
         Checks.ask(store, "S1a");
         checks.same("rows behind S of none", store.count(6), 0);
+        checks.throwsThat("what throws", Checks.ARITHMETIC, () -> Checks.ask(store, "S01/(a-19)"));
+        checks.same("rows behind what throws", store.count(6), 0);
     }
 
     private static void valuesInEach(Checks checks) {

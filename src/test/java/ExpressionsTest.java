@@ -58,6 +58,7 @@ public final class ExpressionsTest {
     private static void minus(Checks checks) {
         values(checks, 0, "-7", "-7", "--4", "4", "---4", "-4", "----4", "4", "1--1", "2", "1---1", "0", "-2*-3", "6",
                 "-(1-4)", "3", "-3+5", "2", "3*-2+1", "-5", "-3%2-1", "-2", "-a", "-8", "-c", "3", "-0", "0");
+        values(checks, Checks.LEAST, "-?/2", "-1073741824", "-(?/2)", "1073741824", "-?%3", "-2", "-(?%3)", "2");
         checks.refuses("S0-", 3);
         checks.refuses("S0--", 4);
         checks.refuses("S0-+1", 3);

@@ -62,6 +62,9 @@ public final class KeepTest {
             checks.same("run(" + k + ")", store.run(k, 0), 1);
             checks.same("value of statement " + k, store.value(0, 0), 5 + k);
         }
+        checks.throwsThat("keep(-1)", Checks.BAD, () -> Checks.keep(store, -1, "D0"));
+        checks.throwsThat("keep(4)", Checks.BAD, () -> store.keep(4));
+        checks.same("statements kept", store.count(2), 4);
     }
 
     private static void keptInAnothersPlace(Checks checks) {

@@ -18,10 +18,12 @@ public final class TablesTest {
             QueryStore store = new QueryStore();
             Checks.ask(store, "I" + table + "(?,?-1,?+1)", Checks.LEAST);
             Checks.ask(store, "I" + table + "(?,?-1,?+1)", Checks.GREATEST);
+            Checks.ask(store, "I" + table + "(?-1,?-2,?-3)", Checks.GREATEST);
             Checks.ask(store, "I" + table + "(0,0-1,1)");
             checks.sameText("rows of table " + table, Checks.rows(store, table),
-                    "-2147483648,2147483647,-2147483647 0,-1,1 2147483647,2147483646,-2147483648");
-            checks.same("rows in all", store.count(3) + store.count(4) + store.count(5), 3);
+                    "-2147483648,2147483647,-2147483647 0,-1,1 2147483646,2147483645,2147483644 "
+                    + "2147483647,2147483646,-2147483648");
+            checks.same("rows in all", store.count(3) + store.count(4) + store.count(5), 4);
         }
     }
 
